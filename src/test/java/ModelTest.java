@@ -330,7 +330,20 @@ public final class ModelTest {
             return part.length() < 2 ? part.length() : -1;
         }
 
+        private String deedsKey = "";
+        private List<Deed> deedsKept = List.of();
+        private String rulesKey = "";
+        private int[][] rulesKept = new int[4][3];
+
         List<Deed> deeds() {
+            if (!deedsKey.contentEquals(text[0])) {
+                deedsKey = text[0].toString();
+                deedsKept = parseDeeds();
+            }
+            return deedsKept;
+        }
+
+        private List<Deed> parseDeeds() {
             List<Deed> found = new ArrayList<>();
             if (text[0].length() == 0 || fault(0) != -1) return found;
             for (String part : text[0].toString().split(";")) {
@@ -342,6 +355,14 @@ public final class ModelTest {
         }
 
         int[][] rules() {
+            if (!rulesKey.contentEquals(text[1])) {
+                rulesKey = text[1].toString();
+                rulesKept = parseRules();
+            }
+            return rulesKept;
+        }
+
+        private int[][] parseRules() {
             int[][] found = new int[4][3];
             if (text[1].length() == 0 || fault(1) != -1) return found;
             for (String part : text[1].toString().split(";")) {
