@@ -330,7 +330,7 @@ public final class SecondChances {
         if (m > deedList.size) {
             return refusal(NOT);
         }
-        int hopeless = offers.howManyHopeless();
+        int hopeless = deedList.size - Integer.bitCount(offers.hopefulDeeds());
         int above = 1;
         int below = 1;
         for (int i = 0; i < m; i++) {
@@ -900,14 +900,14 @@ public final class SecondChances {
             return bits;
         }
 
-        int howManyHopeless() {
-            int sum = 0;
+        int hopefulDeeds() {
+            int bits = 0;
             for (int d = 0; d < deeds.size; d++) {
-                if (openHours(d) == 0) {
-                    sum++;
+                if (openHours(d) != 0) {
+                    bits |= 1 << d;
                 }
             }
-            return sum;
+            return bits;
         }
 
         int timesAsked(int p, int h) {
@@ -1007,8 +1007,9 @@ public final class SecondChances {
         private final long[] together = new long[SETS];
         private int all;
 
+        /** Deeds that CAN in no HOUR are left out: each of them would treble the work. */
         void reckon() {
-            all = offers.deeds.allBits();
+            all = offers.hopefulDeeds();
             least[0] = 0;
             for (int set = 1; set <= all; set++) {
                 least[set] = NEVER;
@@ -1166,9 +1167,12 @@ public final class SecondChances {
         private int searchFewest() {
             int all = (1 << size) - 1;
             int found = all;
+            int fewest = size;
             for (int bits = 0; bits < all; bits++) {
-                if (Integer.bitCount(bits) < Integer.bitCount(found) && isPeaceful(all & ~bits)) {
+                int many = Integer.bitCount(bits);
+                if (many < fewest && isPeaceful(all & ~bits)) {
                     found = bits;
+                    fewest = many;
                 }
             }
             return found;

@@ -123,8 +123,10 @@ public final class PromisesTest {
         due("wipe(-1)", x.wipe(-1), -2);
         due("wipe(2)", x.wipe(2), -2);
         due("wipe(0)", x.wipe(0), 80);
+        due("an empty one is well", x.fault(0), -1);
         due("wipe(0) again", x.wipe(0), 0);
         due("the other one stays", x.wipe(1), 40);
+        due("and is well then", x.fault(1), -1);
         due("and begins anew", typeAll(x, 0, "p0d1A"), 5);
         due("without a fault", x.fault(0), -1);
         due("with a deed", x.count(0), 1);
@@ -387,6 +389,35 @@ public final class PromisesTest {
         due("one hour, one of two", x.most(0), 5);
         due("none is ahead of hour 0", x.when(0), -1);
         due("so the other one is done", x.when(1), 0);
+        x = fair("p0d5AB;r0d5AC", "p2;r2");
+        x.person(0, 1, 1);
+        x.person(2, 2, 3);
+        due("of like worth the cheapest: the first", x.most(1) * 100 + x.when(0) * 10 + x.when(1), 199);
+        x.person(1, 2, 5);
+        due("of like worth the cheapest: the last", x.most(1) * 100 + x.when(0) * 10 + x.when(1), 390);
+        eightDeeds();
+    }
+
+    private static void eightDeeds() {
+        SecondChances x = fair("p0d1A;p0d2A;p0d3A;p0d4A;p0d5A;p0d6A;p0d7A;p0d8A", "p1");
+        due("an hour for each of eight", x.most(0) * 100 + x.most(1), 3608);
+        for (int d = 0; d < 8; d++) {
+            due("when(" + d + ")", x.when(d), d);
+        }
+        x.person(0, 1, 6);
+        due("six hours: the worthiest six", x.most(0) * 100 + x.most(1), 3306);
+        for (int d = 0; d < 8; d++) {
+            due("when(" + d + ")", x.when(d), d < 2 ? -1 : d - 2);
+        }
+        x.wipe(1);
+        due("nobody is needed", x.most(0) * 100 + x.most(1), 3600);
+        for (int d = 0; d < 8; d++) {
+            due("when(" + d + ")", x.when(d), 0);
+        }
+        fill(x, 0, 0, 7, 7, 7, 7, 7, 7, 7, 7, 9);
+        due("a plan of eight", x.plan(0, 0) * 100 + x.plan(0, 1), 136);
+        fill(x, 0, 0, 7, 7, 7, 7, 7, 7, 7, 9);
+        due("the eighth is off", x.plan(0, 0), 0);
     }
 
     private static void purse() {
@@ -652,6 +683,7 @@ public final class PromisesTest {
         due("the worthiest", x.best(), 3);
         x.after(1, 3);
         due("by what is spared", x.best(), 1);
+        due("one of little worth", fair("p0d1A", "").best(), 0);
         x.wipe(0);
         due("no deed", x.best(), -1);
         due("no set but none", x.spared(0) * 10 + x.spared(1), -2);
