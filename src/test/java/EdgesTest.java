@@ -105,6 +105,7 @@ public final class EdgesTest {
         document = Files.readString(Path.of("../shared/DOC.md")).replaceAll("\\s+", " ");
         newObjects();
         typing();
+        wordsOfTexts();
         wiping();
         faultsByEveryByte();
         faultsAtEnds();
@@ -113,6 +114,7 @@ public final class EdgesTest {
         rules();
         people();
         weatherAndSettings();
+        wordsOfTheNight();
         reading();
         canAtEdges();
         comesAtEdges();
@@ -133,6 +135,8 @@ public final class EdgesTest {
         spared();
         best();
         regrets();
+        wordsOfSheets();
+        wordsOfRefusals();
         sheets();
         losing();
         putting();
@@ -221,11 +225,59 @@ public final class EdgesTest {
         due("79 bytes", x.count(1), 79);
         due("the 80th", x.type(0, 'F'), 80);
         due("the 81st", x.type(0, 'G'), -4);
+        says(TERMS, "RULES (text 1) are a text of up to 40 bytes: parts with ; between them");
+        x = fair("", RULES_40.substring(0, 39));
+        due("39 bytes", x.count(2), 39);
+        due("the 40th", x.type(1, 'w'), 40);
+        due("the 41st", x.type(1, 'h'), -4);
+        due("nine parts", x.count(3), 9);
+    }
+
+    private static void wordsOfTexts() {
+        says(TERMS, "a figure (0 to 5: PLACE)");
+        due("place 0", fair("p0d1A", "").deed(0, 1), 0);
+        due("place 5", fair("p5d1A", "").deed(0, 1), 5);
+        due("place 6", fair("p6d1A", "").fault(0), 1);
+        due("the sign ahead of 0", fair("p/d1A", "").fault(0), 1);
+        says(TERMS, "r or d (it rained, or was dry: WEATHER 1, 0)");
+        due("r", fair("p0r1A", "").deed(0, 2), 1);
+        due("d", fair("p0d1A", "").deed(0, 2), 0);
+        due("neither", fair("p01A", "").fault(0), 2);
+        due("both", fair("p0rd1A", "").fault(0), 3);
+        says(TERMS, "a figure (1 to 9: WORTH)");
+        due("worth 1", fair("p0d1A", "").deed(0, 3), 1);
+        due("worth 9", fair("p0d9A", "").deed(0, 3), 9);
+        due("worth 0", fair("p0d0A", "").fault(0), 3);
+        due("worth 10", fair("p0d10A", "").fault(0), 4);
+        due("the sign behind 9", fair("p0d:A", "").fault(0), 3);
+        says(TERMS, "then the letters of PEOPLE who were there (A to H: 0 to 7, at least one, none twice).");
+        due("A", fair("p0d1A", "").deed(0, 4), 1);
+        due("H", fair("p0d1H", "").deed(0, 4), 128);
+        due("the sign ahead of A", fair("p0d1@", "").fault(0), 4);
+        due("I", fair("p0d1I", "").fault(0), 4);
+        due("nobody", fair("p0d1", "").fault(0), 4);
+        due("nobody, then a deed", fair("p0d1;p0d1A", "").fault(0), 4);
+        due("one twice at once", fair("p0d1AA", "").fault(0), 5);
+        due("one twice at last", fair("p0d1ABCDEFGHA", "").fault(0), 12);
+        due("one at two deeds", fair("p0d1A;p0d1A", "").fault(0), -1);
+        says(TERMS, "a figure (0 to 4: how many of those who were there must be there), perhaps w (with like weather), perhaps h (in the same place)");
+        due("0", fair("", "p0").rule(0, 0), 0);
+        due("4", fair("", "p4").rule(0, 0), 4);
+        due("5", fair("", "p5").fault(1), 1);
+        due("the sign ahead of 0", fair("", "p/").fault(1), 1);
+        due("w", fair("", "p0w").rule(0, 1) * 10 + fair("", "p0w").rule(0, 2), 10);
+        due("h", fair("", "p0h").rule(0, 1) * 10 + fair("", "p0h").rule(0, 2), 1);
+        due("w, h", fair("", "p0wh").rule(0, 1) * 10 + fair("", "p0wh").rule(0, 2), 11);
+        due("h, w", fair("", "p0hw").fault(1), 3);
+        due("w twice", fair("", "p0ww").fault(1), 3);
+        due("h twice", fair("", "p0hh").fault(1), 3);
     }
 
     private static void wiping() {
-        says(3, "A text is empty: how many bytes it had.");
+        says(3, "A text is empty: how many bytes it had. BAD.");
         SecondChances x = fair(DEEDS_80, RULES_40);
+        due("wipe(-1)", x.wipe(-1), -2);
+        due("wipe(2)", x.wipe(2), -2);
         due("wipe(0), full", x.wipe(0), 80);
         due("wipe(0), empty", x.wipe(0), 0);
         due("deeds", x.count(0), 0);
@@ -272,7 +324,11 @@ public final class EdgesTest {
         for (String[] c : rules) {
             everyByte(1, c[0], c[1], rule + "(;" + rule + ")*");
         }
-        says(4, "The FAULT of a text; NONE.");
+        says(4, "The FAULT of a text; NONE. BAD.");
+        due("fault(-1)", fair("x", "x").fault(-1), -2);
+        due("fault(0)", fair("x", "").fault(0), 0);
+        due("fault(1)", fair("x", "").fault(1), -1);
+        due("fault(2)", fair("x", "x").fault(2), -2);
         due("of letters that stand for no byte of a deed", fair("p0r1A,r1d2B", "").fault(0), 5);
         due("a fault stays where it is", fair("p6r1A;p0r1A", "").fault(0), 1);
         due("a fault stays where it is", fair("", "p5;p1;q").fault(1), 1);
@@ -436,6 +492,40 @@ public final class EdgesTest {
             due("too small", x.set(what, -1), -2);
             due("after the greatest", x.set(what, 0), most[what]);
         }
+    }
+
+    private static void wordsOfTheNight() {
+        says(TERMS, "THE NIGHT has 8 HOURS (0 to 7).");
+        SecondChances x = fair("p0d1A;r0r1A", "p1;r1w");
+        due("hour -1", x.can(0, -1), -2);
+        due("hour 0", x.can(0, 0), 1);
+        due("hour 7", x.can(0, 7), 1);
+        due("hour 8", x.can(0, 8), -2);
+        due("all of them", x.hours(0), 255);
+        says(TERMS, "for a PRICE (0 to 99; 1 at first) for each HOUR in which they are asked.");
+        due("1 at first", x.costs(0, 0), 1);
+        x.person(0, 2, 0);
+        due("0", x.costs(0, 0), 0);
+        x.person(0, 2, 99);
+        due("99", x.costs(0, 0), 99);
+        due("100", x.person(0, 2, 100), -2);
+        due("still 99", x.costs(0, 0), 99);
+        x.weather(7, 1);
+        due("in two hours", x.most(1), 198);
+        says(TERMS, "The WEATHER of an HOUR is 0 or 1 (0 at first); to turn it costs RAIN (0 to 99; 9 at first).");
+        x = fair("p0r1A;r0d1A", "p0w;r0w");
+        x.set(1, 1);
+        due("9 at first, from dry", x.costs(0, 0), 9);
+        due("dry at first", x.costs(1, 0), 0);
+        x.weather(0, 1);
+        due("wet", x.costs(0, 0), 0);
+        due("9 at first, from wet", x.costs(1, 0), 9);
+        x.set(0, 0);
+        due("0", x.costs(1, 0), 0);
+        x.set(0, 99);
+        due("99", x.costs(1, 0), 99);
+        due("100", x.set(0, 100), -2);
+        due("still 99", x.costs(1, 0), 99);
     }
 
     private static void reading() {
@@ -1100,6 +1190,75 @@ public final class EdgesTest {
     }
 
     // ---- sheets
+
+    private static void wordsOfSheets() {
+        says(TERMS, "SHEETS 0 .. 3 are LOST (at first) or a row of a FORM: 0 bytes, 1 shorts, 2 ints, of 0 to 60 items (0 at first).");
+        SecondChances x = new SecondChances();
+        due("sheet -1", x.sheet(-1, 0, 1), -2);
+        due("sheet 4", x.sheet(4, 0, 1), -2);
+        for (int s = 0; s < 4; s++) {
+            due("sheet " + s + " is lost", x.lose(s), NULL);
+            due("sheet " + s, x.sheet(s, s % 3, 60), 60);
+            for (int i = 0; i < 60; i++) {
+                due("item " + i + " at first", x.get(s, s % 3, i), 0);
+            }
+        }
+        due("form -1", x.sheet(0, -1, 1), -2);
+        due("form 3", x.sheet(0, 3, 1), -2);
+
+        says(TERMS, "FINDINGS (answers -10 less the number; they change nothing but count() 8): 1 NULL: the SHEET is LOST;"
+            + " 2 INDEX: there is no such item; 3 CAST: it has another FORM; 4 STORE: unlike FORMS; 5 SIZE: below 0.");
+        x = fill(new SecondChances(), 0, 0, 5);
+        x.sheet(1, 1, 1);
+        long before = x.digest();
+        long[] answers = {x.lose(2), x.count(8), x.put(0, 0, 1, 6), x.count(8), x.put(0, 1, 0, 6), x.count(8),
+            x.copy(0, 0, 1, 0, 1), x.count(8), x.sheet(0, 0, -1), x.count(8)};
+        for (int number = 1; number <= 5; number++) {
+            due("finding " + number, answers[2 * number - 2], -10 - number);
+            due("is the latest", answers[2 * number - 1], number);
+        }
+        due("digest", x.digest(), before);
+        due("items", x.get(0, 0, 0) * 10 + x.get(1, 1, 0), 50);
+    }
+
+    private static void wordsOfRefusals() {
+        says(TERMS, "Refusals, the first that fits, in the order told at each act: BAD -2 (a number not as told, no such thing),"
+            + " NULL, NOT -3 (as told), FULL -4, other FINDINGS.");
+        SecondChances x = fair(DEEDS_80, RULES_40);
+        due("BAD ahead of NULL", x.plan(0, 3), -2);
+        due("NULL ahead of NOT", x.plan(0, 1), NULL);
+        x.sheet(0, 0, 7);
+        due("BAD ahead of NOT", x.plan(0, 3), -2);
+        due("NOT", x.plan(0, 1), -3);
+        due("BAD ahead of FULL", x.type(0, 256), -2);
+        due("FULL", x.type(0, 255), -4);
+        due("BAD ahead of SIZE", x.sheet(0, 3, -1), -2);
+        due("SIZE", x.sheet(0, 2, -1), SIZE);
+        due("BAD ahead of NULL, CAST, INDEX", x.put(1, 3, 7, 0), -2);
+        due("NULL ahead of CAST, INDEX", x.put(1, 1, 7, 0), NULL);
+        due("CAST ahead of INDEX", x.put(0, 1, 7, 0), CAST);
+        due("INDEX", x.put(0, 0, 7, 0), INDEX);
+        x.sheet(1, 1, 7);
+        due("BAD ahead of NULL, INDEX", x.copy(2, -1, 4, -1, -1), -2);
+        due("NULL ahead of INDEX", x.copy(2, -1, 1, -1, -1), NULL);
+        due("STORE ahead of INDEX", x.copy(0, -1, 1, -1, -1), STORE);
+        due("INDEX", x.copy(0, -1, 0, -1, -1), INDEX);
+
+        says(TERMS, "They change nothing (FINDINGS but count() 8).");
+        due("the latest finding", x.count(8), 2);
+        long before = x.digest();
+        due("BAD, FULL, NOT", x.type(0, -1) + x.type(0, 0) + x.plan(0, 1), -9);
+        due("the latest finding still", x.count(8), 2);
+        due("NULL", x.write(3), NULL);
+        due("the latest finding now", x.count(8), 1);
+        due("digest", x.digest(), before);
+
+        says(TERMS, "Where the answer is a long, a refusal -x is the least long and x more.");
+        due("BAD", x.odds(8, 0, 0), -9223372036854775806L);
+        due("NOT", x.odds(0, 0, 0), -9223372036854775805L);
+        due("BAD", x.regrets(9, 0), -9223372036854775806L);
+        due("NOT", new SecondChances().regrets(1, 0), -9223372036854775805L);
+    }
 
     private static void sheets() {
         says(30, "A SHEET is a new row of a FORM with n items: n. BAD: SHEET, FORM, above 60; SIZE.");
