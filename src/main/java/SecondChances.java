@@ -10,6 +10,8 @@ public final class SecondChances {
     private static final int KINDS = 4, PLACES = 6, PEOPLE = 8, HOURS = 8, DEEDS = 8;
     private static final int DEED_BYTES = 80, RULE_BYTES = 40;
     private static final int NULL = 1, INDEX = 2, CAST = 3, STORE = 4, SIZE = 5;
+    private static final int LEAST_INT = 1 << 31;
+    private static final long LEAST_LONG = 1L << 63;
 
     private final Planner planner = new Planner();
     private final Offers offers = planner.offers;
@@ -370,12 +372,12 @@ public final class SecondChances {
 
     public int get(int s, int form, int i) {
         if (!Sheets.isNumber(s) || !Sheets.isForm(form)) {
-            return Integer.MIN_VALUE;
+            return LEAST_INT;
         }
         int finding = sheets.findingAt(s, form, i);
         if (finding != 0) {
             sheets.tell(finding);
-            return Integer.MIN_VALUE;
+            return LEAST_INT;
         }
         return sheets.rows[s][i];
     }
@@ -504,7 +506,7 @@ public final class SecondChances {
     }
 
     private static long refusal(int answer) {
-        return Long.MIN_VALUE - answer;
+        return LEAST_LONG - answer;
     }
 
     /** The part above (0) or below (1) of a fraction in lowest terms. */

@@ -1,6 +1,7 @@
 import com.sun.source.tree.ClassTree;
 import com.sun.source.tree.CompilationUnitTree;
 import com.sun.source.tree.ForLoopTree;
+import com.sun.source.tree.MemberSelectTree;
 import com.sun.source.tree.MethodInvocationTree;
 import com.sun.source.tree.MethodTree;
 import com.sun.source.tree.NewClassTree;
@@ -31,6 +32,7 @@ import java.util.regex.Pattern;
 import javax.lang.model.element.Element;
 import javax.lang.model.element.ExecutableElement;
 import javax.lang.model.element.TypeElement;
+import javax.lang.model.element.VariableElement;
 import javax.tools.JavaCompiler;
 import javax.tools.StandardJavaFileManager;
 import javax.tools.ToolProvider;
@@ -190,6 +192,17 @@ public final class LanguageTest {
         public Void visitMethodInvocation(MethodInvocationTree tree, Void v) {
             note(trees.getElement(new TreePath(getCurrentPath(), tree.getMethodSelect())));
             return super.visitMethodInvocation(tree, v);
+        }
+
+        @Override
+        public Void visitMemberSelect(MemberSelectTree tree, Void v) {
+            if (trees.getElement(getCurrentPath()) instanceof VariableElement field
+                && field.getEnclosingElement() instanceof TypeElement owner) {
+                String name = owner.getQualifiedName().toString();
+                boolean own = name.startsWith("SecondChances") || name.equals("Array");
+                hold(4, own, name + "." + field.getSimpleName() + " is a field of the library");
+            }
+            return super.visitMemberSelect(tree, v);
         }
 
         @Override
